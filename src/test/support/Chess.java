@@ -18,6 +18,17 @@ final class Chess {
         return from + 64 * to + 4096 * kind;
     }
 
+    static String name(int square) {
+        return "" + (char) ('a' + square % 8) + (char) ('1' + square / 8);
+    }
+
+    /** A move of a kind 0 .. 7 as a text; a kind that is none is written as its number. */
+    static String text(int move) {
+        int kind = move / 4096;
+        String end = kind == 0 ? "" : kind >= 2 && kind <= 5 ? "..nbrq".substring(kind, kind + 1) : "=" + kind;
+        return name(move % 64) + name(move / 64 % 64) + end;
+    }
+
     /** The piece of a letter of FEN, 0 for a dot. */
     static int piece(char letter) {
         return ".PNBRQKpnbrqk".indexOf(letter);

@@ -1,12 +1,18 @@
 /** Counts and prints the calls whose answer is not the one that is due. */
 final class Due {
     private static int wrong = 0;
+    private static String test = "";
 
     interface Call {
         void run();
     }
 
     private Due() {
+    }
+
+    /** Names the test that what is told from now on belongs to. */
+    static void in(String name) {
+        test = name + ": ";
     }
 
     static void same(String call, long got, long want) {
@@ -37,7 +43,7 @@ final class Due {
 
     static void tell(String what) {
         wrong++;
-        System.out.println(what);
+        System.out.println(test + what);
     }
 
     static boolean allWell() {
